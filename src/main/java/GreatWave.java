@@ -573,7 +573,8 @@ public final class GreatWave {
             for (int line = Math.max(0, y - 1); line <= lastLine; line++) {
                 for (int column = Math.max(0, x - 1); column <= lastColumn; column++) {
                     int beside = squareAt(column, line);
-                    if (depths[beside] == 0) {
+                    // Those that aren't farther (the square itself, too) can't get nearer from here.
+                    if (depths[beside] == 0 || minutes[beside] <= minutes[square]) {
                         continue;
                     }
                     boolean byCorner = line != y && column != x;

@@ -113,6 +113,11 @@ public final class LawTest {
         bad("watchwarn 5;", 0);
         bad("watch 5;hol", 8);
         bad("hold 1;lead", 11);
+        bad("watchz 5;", 0);
+        bad("watcha 5;", 0);
+        bad("zwatch 5;", 0);
+        bad("watch 99990;", 6);
+        bad("watch 00009;", 6);
         bad("Watch 5;", 0);
         bad("wAtch 5;", 0);
         bad("watch 5;warn -5;", 13);
