@@ -927,7 +927,7 @@ public final class GreatWave {
         void sendDue(int now, int again, Chances chances) {
             Message before = null;
             for (Message message = first; message != null; message = message.next) {
-                if (message.isDue(now, again) && isAnswered(message, now, chances)) {
+                if (message.isDue(now, again) && send(message, now, chances)) {
                     unlink(message, before);
                 } else {
                     before = message;
@@ -935,7 +935,8 @@ public final class GreatWave {
             }
         }
 
-        private boolean isAnswered(Message message, int now, Chances chances) {
+        /** Tells whether the message is answered, and so waits no more. */
+        private boolean send(Message message, int now, Chances chances) {
             message.sentAt = now;
             sendings++;
             if (!chances.letCome()) {
