@@ -17,6 +17,7 @@ public final class SourceBoundsTest {
         tideTurnsAtHalf();
         weightsFromNoughtToNine();
         weightsOfSeveralTheLeast();
+        weightsOfPiecesThatMakeNothing();
         weightsOfNone();
         shortRowsCountNought();
         restOfGreatestNumbers();
@@ -325,6 +326,27 @@ public final class SourceBoundsTest {
             Check.due("piece " + i + " makes nothing", wave.weight(i), 0);
         }
         weighs("nothing made at all", wave, 276L * 276, 0, 0, 0, 0);
+    }
+
+    /** The same, where some make nothing: these weigh 0, whichever of the four they are. */
+    private static void weightsOfPiecesThatMakeNothing() {
+        for (int making = 0; making < 16; making++) {
+            GreatWave wave = Twins.bare();
+            wave.buoy(2, 2);
+            int[] weights = new int[4];
+            for (int i = 0; i < 4; i++) {
+                wave.piece();
+                wave.row(i, 0, 4);
+                if ((making >> i & 1) == 1) {
+                    weights[i] = 9 - i;
+                    wave.makes(i, 0, i, 10);
+                }
+            }
+            for (int i = 0; i < 4; i++) {
+                wave.read(0, i, 10 * weights[i], true);
+            }
+            weighs("those that make are " + making, wave, 0, weights);
+        }
     }
 
     /** "None, if all is lost."; "WEIGHT of a PIECE. NONE: none such, no WEIGHTS."; "rest .. NONE: no WEIGHTS." */

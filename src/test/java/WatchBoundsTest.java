@@ -28,6 +28,7 @@ public final class WatchBoundsTest {
         stateSinceTheMinuteBegan();
         newShakeOfStates();
         shoresWithoutAnArrivalStay();
+        askingChangesNothing();
         Check.end();
     }
 
@@ -549,5 +550,25 @@ public final class WatchBoundsTest {
         GreatWave none = new GreatWave(4, 4);
         none.shake(0, 0, 95, 0);
         Check.due("no shores at all", none.pass(500), 500);
+    }
+
+    private static long askAll(GreatWave wave) {
+        for (int what = 0; what <= 12; what++) {
+            wave.count(what);
+            wave.told(what % 2, what % 8);
+            wave.sirenOf(what % 2, what % 6);
+            wave.tideAt(what % 2, what);
+            wave.travel(what % 7, what % 5, 6, what % 4);
+        }
+        wave.weight(0);
+        wave.rest();
+        return wave.fault();
+    }
+
+    /** What is only asked for is as it was, and the minutes of another start don't stay. */
+    private static void askingChangesNothing() {
+        Twins.answer("asked in an empty sea", -1, Twins::bare, WatchBoundsTest::askAll);
+        Twins.answer("asked in a busy sea", 4, Twins::busy, WatchBoundsTest::askAll);
+        Twins.answer("asked in a full sea", -1, Twins::full, WatchBoundsTest::askAll);
     }
 }
