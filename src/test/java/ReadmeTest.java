@@ -18,6 +18,7 @@ import javax.tools.ToolProvider;
 /** What README.md says of how to use the class and how to run its tests is so. */
 public final class ReadmeTest {
     private static final Path PAGE = Path.of("README.md");
+    private static final Path SOURCE = Path.of("src/main/java/GreatWave.java");
     private static final Path TESTS = Path.of("src/test/java");
     /** A call, with or without a name for what it answers, and the answer behind it. */
     private static final Pattern ANSWERED =
@@ -141,9 +142,7 @@ public final class ReadmeTest {
     private static void theScript(List<String> page) {
         Check.yes("README.md names .ci/run", page.contains("    .ci/run"));
         Check.yes(".ci/run can be run", Files.isExecutable(Path.of(".ci/run")));
-        for (String place : new String[] {"src/main/java/GreatWave.java", "../shared/DOC.md", "../shared/LANGUAGE.md"}) {
-            Check.yes("README.md names " + place, String.join("\n", page).contains("`" + place + "`"));
-            Check.yes(place + " is there", Files.isRegularFile(Path.of(place)));
-        }
+        Check.yes("README.md names the class's file", String.join("\n", page).contains("`" + SOURCE + "`"));
+        Check.yes(SOURCE + " is there", Files.isRegularFile(SOURCE));
     }
 }

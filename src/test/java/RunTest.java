@@ -49,7 +49,8 @@ public final class RunTest {
             Path script = project.resolve(".ci/run");
             Files.createDirectories(script.getParent());
             Files.copy(SCRIPT, script);
-            return exitOf(folder, script.toString());
+            // By sh, as a folder for temporary files may not let its files be run.
+            return exitOf(folder, "sh", script.toString());
         } finally {
             remove(folder);
         }
